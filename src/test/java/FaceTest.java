@@ -1,0 +1,77 @@
+import java.lang.reflect.Constructor;
+import java.lang.reflect.Field;
+import java.lang.reflect.Method;
+import java.lang.reflect.Modifier;
+import java.util.Arrays;
+import java.util.TreeSet;
+
+/** The public face, as the document and rules 1 and 5 of LANGUAGE.md have it; and that no late call breaks. */
+public final class FaceTest {
+    private static final String[] FACE = {
+        "public int ClearingBooks.acquirer(int)",
+        "public int ClearingBooks.issuer(int)",
+        "public long ClearingBooks.clear(int,int,long)",
+        "public long ClearingBooks.back(int,int,long)",
+        "public boolean ClearingBooks.reconcile(int,int,long)",
+        "public long ClearingBooks.batch(int,int)",
+        "public int ClearingBooks.settle()",
+        "public long ClearingBooks.transfer(int,int)",
+        "public long ClearingBooks.party(int,int)",
+        "public int ClearingBooks.parties()",
+        "public int ClearingBooks.audit()",
+        "public ClearingBooks()",
+        "public static final int ClearingBooks.NONE",
+    };
+
+    public static void main(String[] args) {
+        Check.due("members", new TreeSet<>(Arrays.asList(FACE)).toString(), membersThatAreNotPrivate().toString());
+        Check.due("class", "public final", Modifier.toString(ClearingBooks.class.getModifiers()));
+        staticFieldsAreFinal();
+        callsBeyondTheLastStillEnd();
+        Check.end();
+    }
+
+    private static TreeSet<String> membersThatAreNotPrivate() {
+        TreeSet<String> members = new TreeSet<>();
+        for (Method m : ClearingBooks.class.getDeclaredMethods()) {
+            if (!Modifier.isPrivate(m.getModifiers())) {
+                members.add(m.toString().replaceAll(" throws .*", ""));
+            }
+        }
+        for (Constructor<?> c : ClearingBooks.class.getDeclaredConstructors()) {
+            members.add(c.toString());
+        }
+        for (Field f : ClearingBooks.class.getDeclaredFields()) {
+            if (!Modifier.isPrivate(f.getModifiers())) {
+                members.add(f.toString());
+            }
+        }
+        return members;
+    }
+
+    private static void staticFieldsAreFinal() {
+        for (Field f : ClearingBooks.class.getDeclaredFields()) {
+            int modifiers = f.getModifiers();
+            boolean holds = !Modifier.isStatic(modifiers) || Modifier.isFinal(modifiers);
+            Check.due("final static " + f.getName(), 1, holds ? 1 : 0);
+        }
+    }
+
+    /** What they answer is free, but sums that wrap around must not throw or run on. */
+    private static void callsBeyondTheLastStillEnd() {
+        ClearingBooks books = new ClearingBooks();
+        books.acquirer(0);
+        books.issuer(0);
+        books.issuer(0);
+        for (int call = 0; call < 9300000; call++) {
+            books.back(1, 2, -1000000000000L);
+        }
+        books.back(1, 3, 1000000000000L);
+        int transfers = books.settle();
+        Check.due("transfers have a bound", 1, transfers >= 0 && transfers <= 14 ? 1 : 0);
+        for (int k = 0; k < transfers; k++) {
+            books.transfer(k, 2);
+        }
+        books.audit();
+    }
+}
