@@ -62,16 +62,14 @@ public final class FaceTest {
         ClearingBooks books = new ClearingBooks();
         books.acquirer(0);
         books.issuer(0);
-        books.issuer(0);
-        for (int call = 0; call < 9300000; call++) {
-            books.back(1, 2, -1000000000000L);
+        for (int call = 0; call < 9223372; call++) {
+            books.back(1, 2, 1000000000000L);
         }
-        books.back(1, 3, 1000000000000L);
-        int transfers = books.settle();
-        Check.due("transfers have a bound", 1, transfers >= 0 && transfers <= 14 ? 1 : 0);
-        for (int k = 0; k < transfers; k++) {
-            books.transfer(k, 2);
-        }
-        books.audit();
+        // Both are 2^63 off 0 now, which a long holds as the least number: no transfer can make that even.
+        books.back(1, 2, 36854775808L);
+        Check.due("position of the acquirer", Long.MIN_VALUE, books.party(1, 0));
+        Check.due("position of the issuer", Long.MIN_VALUE, books.party(2, 0));
+        Check.due("transfers end", "14", Check.outcome(books::settle));
+        Check.due("audit", "0", Check.outcome(books::audit));
     }
 }
