@@ -24,37 +24,32 @@ public final class BatchTest {
         Check.due(when + ": sum of " + acquirer, sum, books.batch(acquirer, 1));
     }
 
-    private static void dueReconcile(ClearingBooks books, boolean want, int acquirer, int count, long sum) {
-        String call = "reconcile(" + acquirer + ", " + count + ", " + sum + ")";
-        Check.due(call, want ? 1 : 0, books.reconcile(acquirer, count, sum) ? 1 : 0);
-    }
-
     private static void onlyTheRightCountAndSumEmptyIt() {
         ClearingBooks books = withBatch();
-        dueReconcile(books, false, 1, 2, 299);
-        dueReconcile(books, false, 1, 3, 300);
-        dueReconcile(books, false, 1, 0, 0);
-        dueReconcile(books, false, 1, -2, -300);
-        dueReconcile(books, false, 1, Integer.MIN_VALUE, Long.MIN_VALUE);
-        dueReconcile(books, false, 1, 2, 300 + (1L << 32));
+        Books.dueReconcile(books, false, 1, 2, 299);
+        Books.dueReconcile(books, false, 1, 3, 300);
+        Books.dueReconcile(books, false, 1, 0, 0);
+        Books.dueReconcile(books, false, 1, -2, -300);
+        Books.dueReconcile(books, false, 1, Integer.MIN_VALUE, Long.MIN_VALUE);
+        Books.dueReconcile(books, false, 1, 2, 300 + (1L << 32));
         dueBatch("not reconciled", books, 1, 2, 300);
         long position = books.party(1, 0);
-        dueReconcile(books, true, 1, 2, 300);
+        Books.dueReconcile(books, true, 1, 2, 300);
         dueBatch("reconciled", books, 1, 0, 0);
         Check.due("position stays", position, books.party(1, 0));
-        dueReconcile(books, false, 1, 2, 300);
-        dueReconcile(books, true, 1, 0, 0);
+        Books.dueReconcile(books, false, 1, 2, 300);
+        Books.dueReconcile(books, true, 1, 0, 0);
         books.clear(1, 2, 5);
         dueBatch("begun anew", books, 1, 1, 5);
     }
 
     private static void batchesAreApart() {
         ClearingBooks books = withBatch();
-        dueReconcile(books, true, 3, 0, 0);
+        Books.dueReconcile(books, true, 3, 0, 0);
         books.clear(3, 2, 50);
         dueBatch("of 1", books, 1, 2, 300);
         dueBatch("of 3", books, 3, 1, 50);
-        dueReconcile(books, true, 3, 1, 50);
+        Books.dueReconcile(books, true, 3, 1, 50);
         dueBatch("of 1 still", books, 1, 2, 300);
     }
 

@@ -13,31 +13,22 @@ public final class ClearTest {
 
     /** Acquirer 1 with fee 50, issuer 2 with share 100. */
     private static ClearingBooks pair() {
-        ClearingBooks books = new ClearingBooks();
-        books.acquirer(50);
-        books.issuer(100);
-        return books;
-    }
-
-    private static void duePositions(String when, ClearingBooks books, long house, long acquirer, long issuer) {
-        Check.due(when + ": house", house, books.party(0, 0));
-        Check.due(when + ": acquirer", acquirer, books.party(1, 0));
-        Check.due(when + ": issuer", issuer, books.party(2, 0));
+        return Books.pair(50, 100);
     }
 
     private static void clearingRoundsForTheHouse() {
         ClearingBooks even = pair();
         Check.due("clear 10000", 150, even.clear(1, 2, 10000));
-        duePositions("10000", even, 50, 9850, -9900);
+        Books.duePositions("10000", even, 50, 9850, -9900);
         ClearingBooks odd = pair();
         Check.due("clear 10001", 151, odd.clear(1, 2, 10001));
-        duePositions("10001", odd, 51, 9850, -9901);
+        Books.duePositions("10001", odd, 51, 9850, -9901);
         ClearingBooks under = pair();
         Check.due("clear 9999", 150, under.clear(1, 2, 9999));
-        duePositions("9999", under, 51, 9849, -9900);
+        Books.duePositions("9999", under, 51, 9849, -9900);
         ClearingBooks one = pair();
         Check.due("clear 1", 1, one.clear(1, 2, 1));
-        duePositions("1", one, 1, 0, -1);
+        Books.duePositions("1", one, 1, 0, -1);
     }
 
     private static void clearingGrowsTheBatch() {
@@ -53,26 +44,26 @@ public final class ClearTest {
         free.acquirer(0);
         free.issuer(0);
         Check.due("clear for nothing", 0, free.clear(1, 2, MOST));
-        duePositions("for nothing", free, 0, MOST, -MOST);
+        Books.duePositions("for nothing", free, 0, MOST, -MOST);
         ClearingBooks dear = new ClearingBooks();
         dear.acquirer(1000);
         dear.issuer(1000);
         Check.due("clear the most", MOST / 5, dear.clear(1, 2, MOST));
-        duePositions("the most", dear, MOST / 10, MOST / 5 * 4, -MOST / 10 * 9);
+        Books.duePositions("the most", dear, MOST / 10, MOST / 5 * 4, -MOST / 10 * 9);
         Check.due("clear one less", MOST / 5, dear.clear(1, 2, MOST - 1));
-        duePositions("one less", dear, MOST / 5 + 1, MOST / 5 * 8 - 1, -MOST / 5 * 9);
+        Books.duePositions("one less", dear, MOST / 5 + 1, MOST / 5 * 8 - 1, -MOST / 5 * 9);
     }
 
     private static void goingBackAndForth() {
         ClearingBooks books = pair();
         Check.due("back 30", -30, books.back(1, 2, 30));
-        duePositions("back", books, 0, -30, 30);
+        Books.duePositions("back", books, 0, -30, 30);
         Check.due("forth 100", 70, books.back(1, 2, -100));
-        duePositions("forth", books, 0, 70, -70);
+        Books.duePositions("forth", books, 0, 70, -70);
         Check.due("back 0", 70, books.back(1, 2, 0));
         Check.due("back the most", 70 - MOST, books.back(1, 2, MOST));
         Check.due("forth the most", 70, books.back(1, 2, -MOST));
-        duePositions("both", books, 0, 70, -70);
+        Books.duePositions("both", books, 0, 70, -70);
         Check.due("batch is left alone", 0, books.batch(1, 0));
         Check.due("batch sum is left alone", 0, books.batch(1, 1));
     }

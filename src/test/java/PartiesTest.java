@@ -89,20 +89,14 @@ public final class PartiesTest {
         books.acquirer(0);
         books.issuer(0);
         books.acquirer(0);
-        duePlaces(books, 0, 1, 2, 3, 4);
+        Books.duePlaces("at first", books, 0, 1, 2, 3, 4);
         books.back(2, 3, -5);
         books.back(4, 1, -5);
-        duePlaces(books, 2, 3, 0, 4, 1);
+        Books.duePlaces("two ahead", books, 2, 3, 0, 4, 1);
         books.back(4, 1, -1);
-        duePlaces(books, 2, 4, 1, 3, 0);
+        Books.duePlaces("a third one", books, 2, 4, 1, 3, 0);
         books.settle();
-        duePlaces(books, 0, 1, 2, 3, 4);
-    }
-
-    private static void duePlaces(ClearingBooks books, int... places) {
-        for (int p = 0; p < places.length; p++) {
-            Check.due("place of " + p, places[p], books.party(p, 4));
-        }
+        Books.duePlaces("settled", books, 0, 1, 2, 3, 4);
     }
 
     private static void objectsAreApart() {

@@ -12,28 +12,11 @@ public final class SettleTest {
         Check.end();
     }
 
-    private static ClearingBooks acquirersThenIssuers(int acquirers, int issuers) {
-        ClearingBooks books = new ClearingBooks();
-        for (int i = 0; i < acquirers; i++) {
-            books.acquirer(0);
-        }
-        for (int i = 0; i < issuers; i++) {
-            books.issuer(0);
-        }
-        return books;
-    }
-
-    private static void dueTransfer(ClearingBooks books, int k, long payer, long payee, long amount) {
-        Check.due("payer of " + k, payer, books.transfer(k, 0));
-        Check.due("payee of " + k, payee, books.transfer(k, 1));
-        Check.due("payment of " + k, amount, books.transfer(k, 2));
-    }
-
     private static void nothingToSettle() {
         ClearingBooks house = new ClearingBooks();
         Check.due("the house alone", 0, house.settle());
         Check.dueThrow("no transfer", Check.ARGUMENT, () -> house.transfer(0, 0));
-        ClearingBooks even = acquirersThenIssuers(1, 1);
+        ClearingBooks even = Books.acquirersThenIssuers(1, 1);
         even.back(1, 2, 10);
         even.back(1, 2, -10);
         Check.due("all even", 0, even.settle());
@@ -57,37 +40,37 @@ public final class SettleTest {
     }
 
     private static void leastPaysGreatest() {
-        ClearingBooks books = acquirersThenIssuers(2, 2);
+        ClearingBooks books = Books.acquirersThenIssuers(2, 2);
         books.back(1, 3, -30);
         books.back(2, 4, -70);
         books.back(2, 3, -20);
         Check.due("transfers", 3, books.settle());
-        dueTransfer(books, 0, 4, 2, 70);
-        dueTransfer(books, 1, 3, 1, 30);
-        dueTransfer(books, 2, 3, 2, 20);
+        Books.dueTransfer(books, 0, 4, 2, 70);
+        Books.dueTransfer(books, 1, 3, 1, 30);
+        Books.dueTransfer(books, 2, 3, 2, 20);
     }
 
     private static void ofSeveralTheFirst() {
-        ClearingBooks books = acquirersThenIssuers(3, 3);
+        ClearingBooks books = Books.acquirersThenIssuers(3, 3);
         books.back(3, 6, -9);
         books.back(1, 4, -9);
         books.back(2, 5, -9);
         Check.due("transfers", 3, books.settle());
-        dueTransfer(books, 0, 4, 1, 9);
-        dueTransfer(books, 1, 5, 2, 9);
-        dueTransfer(books, 2, 6, 3, 9);
+        Books.dueTransfer(books, 0, 4, 1, 9);
+        Books.dueTransfer(books, 1, 5, 2, 9);
+        Books.dueTransfer(books, 2, 6, 3, 9);
     }
 
     /** An acquirer that pays too: 1 is at -60, 4 at -40; 3 has 55, 2 has 45, and stays ahead once 3 has 0. */
     private static void partlyPaidIsRankedAnew() {
-        ClearingBooks books = acquirersThenIssuers(2, 2);
+        ClearingBooks books = Books.acquirersThenIssuers(2, 2);
         books.back(1, 3, 60);
         books.back(2, 3, -5);
         books.back(2, 4, -40);
         Check.due("transfers", 3, books.settle());
-        dueTransfer(books, 0, 1, 3, 55);
-        dueTransfer(books, 1, 4, 2, 40);
-        dueTransfer(books, 2, 1, 2, 5);
+        Books.dueTransfer(books, 0, 1, 3, 55);
+        Books.dueTransfer(books, 1, 4, 2, 40);
+        Books.dueTransfer(books, 2, 1, 2, 5);
     }
 
     private static void fourteenTransfers() {
@@ -101,7 +84,7 @@ public final class SettleTest {
         }
         Check.due("transfers to the house", 13, books.settle());
         for (int p = 2; p <= 14; p++) {
-            dueTransfer(books, p - 2, p, 0, 1);
+            Books.dueTransfer(books, p - 2, p, 0, 1);
         }
         for (int p = 2; p <= 14; p++) {
             books.clear(1, p, 11);
@@ -116,21 +99,21 @@ public final class SettleTest {
     }
 
     private static void onlyTheLatestSettlingIsTold() {
-        ClearingBooks books = acquirersThenIssuers(2, 2);
+        ClearingBooks books = Books.acquirersThenIssuers(2, 2);
         books.back(1, 3, -30);
         books.back(2, 4, -70);
         Check.due("first", 2, books.settle());
         books.back(1, 4, 6);
-        dueTransfer(books, 0, 4, 2, 70);
+        Books.dueTransfer(books, 0, 4, 2, 70);
         Check.due("second", 1, books.settle());
-        dueTransfer(books, 0, 1, 4, 6);
+        Books.dueTransfer(books, 0, 1, 4, 6);
         Check.dueThrow("of the first settling", Check.ARGUMENT, () -> books.transfer(1, 0));
         Check.due("third", 0, books.settle());
         Check.dueThrow("of the second settling", Check.ARGUMENT, () -> books.transfer(0, 0));
     }
 
     private static void wrongNumbersAreRefused() {
-        ClearingBooks books = acquirersThenIssuers(1, 1);
+        ClearingBooks books = Books.acquirersThenIssuers(1, 1);
         books.back(1, 2, 8);
         books.settle();
         String before = Check.stateOf(books);
