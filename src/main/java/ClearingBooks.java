@@ -195,23 +195,23 @@ public final class ClearingBooks {
 
     private void makeTransfers() {
         transferCount = 0;
-        while (transferCount < MAX_TRANSFERS) {
+        for (int k = 0; k < MAX_TRANSFERS; k++) {
             int payer = leastOpen();
             if (open[payer] >= 0L) {
                 return;
             }
-            makeTransfer(payer, greatestOpen());
+            makeTransfer(k, payer, greatestOpen());
+            transferCount = k + 1;
         }
     }
 
-    private void makeTransfer(int payer, int payee) {
+    private void makeTransfer(int k, int payer, int payee) {
         long payment = Math.min(-open[payer], open[payee]);
         open[payer] += payment;
         open[payee] -= payment;
-        payers[transferCount] = payer;
-        payees[transferCount] = payee;
-        payments[transferCount] = payment;
-        transferCount++;
+        payers[k] = payer;
+        payees[k] = payee;
+        payments[k] = payment;
     }
 
     private int leastOpen() {

@@ -7,16 +7,17 @@ import java.util.TreeSet;
 
 /** The public face, as the document and rules 1 and 5 of LANGUAGE.md have it; and that no late call breaks. */
 public final class FaceTest {
+    private static final String ARGUMENT = " throws java.lang.IllegalArgumentException";
     private static final String[] FACE = {
-        "public int ClearingBooks.acquirer(int)",
-        "public int ClearingBooks.issuer(int)",
-        "public long ClearingBooks.clear(int,int,long)",
-        "public long ClearingBooks.back(int,int,long)",
-        "public boolean ClearingBooks.reconcile(int,int,long)",
-        "public long ClearingBooks.batch(int,int)",
+        "public int ClearingBooks.acquirer(int)" + ARGUMENT + ",java.lang.IllegalStateException",
+        "public int ClearingBooks.issuer(int)" + ARGUMENT + ",java.lang.IllegalStateException",
+        "public long ClearingBooks.clear(int,int,long)" + ARGUMENT,
+        "public long ClearingBooks.back(int,int,long)" + ARGUMENT,
+        "public boolean ClearingBooks.reconcile(int,int,long)" + ARGUMENT,
+        "public long ClearingBooks.batch(int,int)" + ARGUMENT,
         "public int ClearingBooks.settle()",
-        "public long ClearingBooks.transfer(int,int)",
-        "public long ClearingBooks.party(int,int)",
+        "public long ClearingBooks.transfer(int,int)" + ARGUMENT,
+        "public long ClearingBooks.party(int,int)" + ARGUMENT,
         "public int ClearingBooks.parties()",
         "public int ClearingBooks.audit()",
         "public ClearingBooks()",
@@ -26,6 +27,7 @@ public final class FaceTest {
     public static void main(String[] args) {
         Check.due("members", new TreeSet<>(Arrays.asList(FACE)).toString(), membersThatAreNotPrivate().toString());
         Check.due("class", "public final", Modifier.toString(ClearingBooks.class.getModifiers()));
+        noPrivateMethodIsNamedLikeAPublicOne();
         staticFieldsAreFinal();
         callsBeyondTheLastStillEnd();
         Check.end();
@@ -35,7 +37,7 @@ public final class FaceTest {
         TreeSet<String> members = new TreeSet<>();
         for (Method m : ClearingBooks.class.getDeclaredMethods()) {
             if (!Modifier.isPrivate(m.getModifiers())) {
-                members.add(m.toString().replaceAll(" throws .*", ""));
+                members.add(m.toString());
             }
         }
         for (Constructor<?> c : ClearingBooks.class.getDeclaredConstructors()) {
@@ -47,6 +49,13 @@ public final class FaceTest {
             }
         }
         return members;
+    }
+
+    private static void noPrivateMethodIsNamedLikeAPublicOne() {
+        TreeSet<String> names = new TreeSet<>();
+        for (Method m : ClearingBooks.class.getDeclaredMethods()) {
+            Check.due("one method named " + m.getName(), 1, names.add(m.getName()) ? 1 : 0);
+        }
     }
 
     private static void staticFieldsAreFinal() {
